@@ -458,8 +458,8 @@ public final class VoiceWills {
 
     private boolean helpTogether(int x, int y, int p, int v) {
         for (int a = 0; a <= NOBODY; a++) {
-            for (int b = 0; b <= NOBODY; b++) {
-                if (canInherit(x, a) && canInherit(y, b)) {
+            for (int b = 0; b <= NOBODY && canInherit(x, a); b++) {
+                if (canInherit(y, b)) {
                     tried.copy(now);
                     tried.changeWill(x, a, NOBODY);
                     tried.changeWill(y, b, NOBODY);
@@ -933,10 +933,10 @@ public final class VoiceWills {
             deaths++;
             int heir = NONE;
             if (voice != NOBODY) {
-                heir = heirOf(p);
+                heir = firstAlive(firsts[p], seconds[p]);
                 give(heir, voice);
             }
-            for (int v = 0; v < MOST_PERSONS; v++) {
+            for (int v = 0; v < MOST_PERSONS && jar != 0; v++) {
                 if (isIn(jar, v)) {
                     give(leastOf(silent()), v);
                 }
@@ -944,14 +944,11 @@ public final class VoiceWills {
             return heir;
         }
 
-        private int heirOf(int p) {
-            if (lives(firstHeir(p))) {
-                return firstHeir(p);
+        private int firstAlive(int a, int b) {
+            if (lives(a)) {
+                return a;
             }
-            if (lives(secondHeir(p))) {
-                return secondHeir(p);
-            }
-            return leastOf(silent());
+            return lives(b) ? b : leastOf(silent());
         }
 
         /** What goes to nobody alive is lost. */

@@ -149,6 +149,18 @@ public final class PromiseTests {
         due("undo", x.undo(), NOT);
         due("image", x.goBack(0), NOT);
         due("the seed stays", x.seed(1), 99);
+        x.sell(0, 1);
+        x.sell(1, 0);
+        feedAll(x, "p4;p2;p3;");
+        due("third parish", x.parish(), 3);
+        due("no doors", x.told(1), 0);
+        due("no parts", x.told(2), 0);
+        due("no will", x.person(0, 2), 9);
+        x.sell(0, 1);
+        feedAll(x, "p4;p2;w0 1 9;");
+        due("fourth parish, wills anew", x.parish(), 2);
+        due("no jars", x.person(1, 1), 0);
+        due("own voices", x.person(1, 0), 1);
     }
 
     private static void promise4Cannot() {
@@ -203,6 +215,7 @@ public final class PromiseTests {
         faulty("c1;p1;c2;", 3, 6);
         faulty("p1;w0 9 9;w0 9 9;", 4, 11);
         faulty("p1;w0 9 9;w00", 4, 11);
+        faulty("p1;p1;w0 9 9;w1 9 9;w0 9 9;", 4, 21);
         faulty("p1;w0 0 9;", 4, 6);
         faulty("p1;w0 9 000;", 4, 8);
         faulty("p1;p1;w1 0 1;x", 4, 11);
@@ -237,6 +250,14 @@ public final class PromiseTests {
         }
         due("told(-1)", x.told(-1), OUTSIDE);
         due("told(12)", x.told(12), OUTSIDE);
+        VoiceWills y = parishOf("p9;p1;p9;");
+        due("who uses none", y.told(6), 5);
+        VoiceWills z = parishOf("p1;p9;p3;");
+        z.die(2);
+        z.die(0);
+        due("lost, for one used none", z.told(7), 1);
+        z.die(1);
+        due("all lost", z.told(7), 5);
     }
 
     private static void promise6() {
@@ -310,6 +331,19 @@ public final class PromiseTests {
         VoiceWills z = parishOf("p9;p1;p9;w0 1 1;");
         due("a mute one dies", z.die(0), NONE);
         due("nobody got a voice", z.person(1, 0), 1);
+
+        VoiceWills small = parishOf("p1;p2;p9;w0 1 9;w1 2 9;");
+        small.die(0);
+        small.putBy(1, 1);
+        due("to A, who was mute", small.die(1), 2);
+        due("the jar's voice 0 is lost", small.told(7), 1);
+        due("a dead one's jar is empty", small.person(1, 1), 0);
+
+        VoiceWills zero = parishOf("p9;p2;p3;w1 2 9;");
+        zero.die(1);
+        zero.putBy(2, 2);
+        due("to the mute 0", zero.die(2), 0);
+        due("he uses it", zero.person(0, 0), 2);
 
         VoiceWills jar = parishOf("p1;p2;p3;p9;p9;p9;w0 2 9;w1 2 9;");
         jar.will(2, 9, 9);
@@ -423,6 +457,11 @@ public final class PromiseTests {
         due("he uses none: no sale", last.drift(1), 7);
         due("the first still has it", last.person(0, 0), 2);
 
+        VoiceWills next = parishOf("p1;p2;p3;");
+        next.seed(firstSeedFor(3, 0, 1));
+        due("one sells to the next", next.drift(1), 7);
+        due("the next has it", next.person(1, 0), 0);
+
         VoiceWills rest = parishOf("p1;p2;p3;");
         rest.seed(firstSeedFor(3, 1, 2));
         due("on 2 nothing", rest.drift(1), 7);
@@ -522,6 +561,7 @@ public final class PromiseTests {
         VoiceWills x = parishOf(FIVE);
         due("now", x.whose(0, 3), 3);
         due("A", x.whose(1, 0), 1);
+        due("the first", x.whose(2, 0), 0);
         due("put by is not used", x.whose(1, 1), NONE);
         due("mute's", x.whose(0, 2), NONE);
         due("voice 6 of nobody", x.whose(0, 6), NONE);
@@ -565,6 +605,24 @@ public final class PromiseTests {
         due("the last of a chain", z.wills(123, 3, 0, 1), 1);
         z.die(3);
         due("nobody left", z.wills(123, 2, 0, 0), NONE);
+        VoiceWills keeps = parishOf("p1;p2;w0 1 9;");
+        due("to nobody, so that he keeps his own", keeps.wills(1, 1, 1, 0), 1);
+        due("to nobody, the set", keeps.wills(1, 1, 1, 1), 1);
+        VoiceWills up = parishOf("p1;p2;p3;p4;w1 2 9;w2 3 9;");
+        due("two, the later one's to 0", up.wills(23, 0, 2, 0), 2);
+        due("two, the set", up.wills(23, 0, 2, 1), 6);
+        VoiceWills down = parishOf("p1;p2;p3;p4;w2 1 9;w1 3 9;");
+        due("two, the other way", down.wills(32, 0, 1, 0), 2);
+        due("two, the other set", down.wills(32, 0, 1, 1), 6);
+        VoiceWills first = parishOf("p1;p2;");
+        due("one, to 0", first.wills(2, 0, 1, 1), 2);
+        VoiceWills chain = parishOf("p1;p2;p3;p4;p5;w0 1 9;w1 2 9;w2 3 9;w3 9 9;");
+        due("past the chain", chain.wills(1234, 4, 3, 0), 2);
+        due("of like ones the least", chain.wills(1234, 4, 0, 1), 1);
+        VoiceWills three = parishOf("p1;p2;p3;p4;w0 3 9;w1 3 9;w2 3 9;");
+        due("two are enough of two", three.wills(12, 3, 3, 1), 3);
+        due("three are too many", three.wills(123, 3, 3, 0), NONE);
+        due("three are too many, the set", three.wills(123, 3, 3, 1), NONE);
     }
 
     private static void promise18() {
@@ -593,6 +651,11 @@ public final class PromiseTests {
         due("the mute does not sing", far.sing(2), 1);
         far.sell(1, 2);
         due("by the voice used", far.sing(2), 2);
+        VoiceWills late = parishOf("p1;p5;c8,1,4;");
+        due("a part between may stay without", late.sing(NONE), 2);
+        due("nobody there", late.sing(0), NONE);
+        due("0 there", late.sing(1), 0);
+        due("1 there", late.sing(2), 1);
         VoiceWills six = parishOf("p1;p1;p1;p1;p1;p1;p1;c0,1,2,0,1,2;");
         due("six", six.sing(NONE), 6);
         for (int k = 0; k < 6; k++) {
@@ -679,6 +742,7 @@ public final class PromiseTests {
         due("none parts one", x.knock(), NONE);
         VoiceWills y = parishOf("p1;p9;d0;d3;d2;");
         due("one voice", y.knock(), NONE);
+        due("door 0", parishOf("p1;p1;d1;d2;").knock(), 0);
         due("no doors", parishOf("p1;p1;").knock(), NONE);
         due("doors that know all or none", parishOf("p1;p1;d0;d3;d124;").knock(), NONE);
         due("a bad one is better than none", parishOf("p1;p1;p1;p1;d15;d8;d0;").knock(), 1);
