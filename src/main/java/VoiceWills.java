@@ -408,10 +408,7 @@ public final class VoiceWills {
         if (lot == 0) {
             now.bury(p);
         } else if (lot == 1) {
-            int q = p + 1 < here.persons ? p + 1 : 0;
-            if (now.canHandOver(p, q)) {
-                now.handOver(p, q);
-            }
+            now.handOver(p, p + 1 < here.persons ? p + 1 : 0);
         }
     }
 
@@ -969,14 +966,19 @@ public final class VoiceWills {
             return p != q && lives(p) && lives(q) && uses[p] != NOBODY;
         }
 
+        /** One gives another the voice that he uses; nothing happens where he cannot. */
         void handOver(int p, int q) {
             if (!canHandOver(p, q)) {
                 return;
             }
             give(q, uses[p]);
             int least = leastOf(jars[p]);
-            uses[p] = least == NONE ? NOBODY : least;
-            jars[p] &= jars[p] - 1;
+            if (least == NONE) {
+                uses[p] = NOBODY;
+            } else {
+                uses[p] = least;
+                jars[p] &= ~(1 << least);
+            }
         }
 
         /** One uses voice v of his jar instead of the one that he used, which is the answer. */
