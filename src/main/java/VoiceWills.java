@@ -1117,10 +1117,10 @@ public final class VoiceWills {
             }
         }
 
-        /** False where a figure is nobody alive, or comes twice. */
+        /** False where a figure is nobody alive, or comes twice; so 0 is no order, its one figure stands for nobody. */
         boolean readOrder(int order, Folk folk) {
             empty();
-            if (order < 0) {
+            if (order <= 0) {
                 return false;
             }
             int rest = order;

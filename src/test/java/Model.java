@@ -415,9 +415,6 @@ final class Model {
 
     private List<Integer> order(int order) {
         List<Integer> persons = new ArrayList<>();
-        if (order == 0) {
-            return persons;
-        }
         for (char figure : Integer.toString(order).toCharArray()) {
             int p = figure - '1';
             if (unknown(p) || !now.ones.get(p).alive || persons.contains(p)) {

@@ -73,7 +73,8 @@ public final class PromiseTests {
         due("new: range", x.range(0), UNKNOWN);
         due("new: door", x.door(0), UNKNOWN);
         due("new: after nobody", x.after(0, 0), UNKNOWN);
-        due("new: whose", x.whose(0, 0), NONE);
+        due("new: there is no order", x.whose(0, 0), OUTSIDE);
+        due("new: nobody can die", x.whose(1, 0), OUTSIDE);
         due("new: judge", x.judge(), NONE);
         due("new: seed", x.seed(7), 0);
         due("new: goBack", x.goBack(0), NOT);
@@ -530,8 +531,11 @@ public final class PromiseTests {
 
     private static void promise15() {
         VoiceWills x = parishOf(FIVE);
-        due("nobody dies", x.after(0, 3), 3);
-        due("the mute", x.after(0, 2), 9);
+        due("another dies", x.after(1, 3), 3);
+        due("the mute", x.after(1, 2), 9);
+        due("0 is no order", x.after(0, 3), OUTSIDE);
+        due("0 is no order for the mute", x.after(0, 2), OUTSIDE);
+        due("unknown ahead of order 0", x.after(0, 5), UNKNOWN);
         due("from the first figure on", x.after(12, 2), 0);
         due("the other way", x.after(21, 2), 1);
         due("a dead one", x.after(21, 0), 9);
@@ -559,12 +563,14 @@ public final class PromiseTests {
 
     private static void promise16() {
         VoiceWills x = parishOf(FIVE);
-        due("now", x.whose(0, 3), 3);
+        due("0 is no order", x.whose(0, 3), OUTSIDE);
+        due("his own", x.whose(1, 3), 3);
         due("A", x.whose(1, 0), 1);
         due("the first", x.whose(2, 0), 0);
         due("put by is not used", x.whose(1, 1), NONE);
-        due("mute's", x.whose(0, 2), NONE);
-        due("voice 6 of nobody", x.whose(0, 6), NONE);
+        due("mute's", x.whose(1, 2), NONE);
+        due("voice 6 of nobody", x.whose(1, 6), NONE);
+        due("voice 6 of nobody, no order", x.whose(0, 6), OUTSIDE);
         due("voice 7", x.whose(0, 7), UNKNOWN);
         due("voice 9", x.whose(0, 9), UNKNOWN);
         due("voice -1", x.whose(0, -1), UNKNOWN);
@@ -581,8 +587,11 @@ public final class PromiseTests {
         due("one, the set", x.wills(1, 4, 0, 1), 1);
         due("two", x.wills(12, 4, 1, 0), 2);
         due("two, the set", x.wills(12, 4, 1, 1), 3);
-        due("none dies: not to be had", x.wills(0, 4, 0, 0), NONE);
-        due("none dies, the set", x.wills(0, 4, 0, 1), NONE);
+        due("0 is no order", x.wills(0, 4, 0, 0), OUTSIDE);
+        due("0 is no order, the set", x.wills(0, 4, 0, 1), OUTSIDE);
+        due("0 is no order, though he uses it now", x.wills(0, 4, 4, 0), OUTSIDE);
+        due("the user lives: not to be had", x.wills(4, 4, 0, 0), NONE);
+        due("unknown ahead of order 0", x.wills(0, 5, 0, 0), UNKNOWN);
         due("to nobody, so that the mute gets it", x.wills(1, 2, 0, 1), 1);
         due("to a dead one", x.wills(1, 0, 0, 0), NONE);
         due("what 2", x.wills(1, 1, 0, 2), OUTSIDE);
@@ -768,7 +777,7 @@ public final class PromiseTests {
     private static void promise25() {
         VoiceWills x = parishOf(FIVE);
         due("of nobody", x.orders(0, NONE), 1);
-        due("of nobody, the only one", x.orders(0, 0), 0);
+        due("of nobody, the only one, though after() takes no 0", x.orders(0, 0), 0);
         due("of nobody, another", x.orders(0, 1), NONE);
         due("of nobody, first", x.orders(0, -2), NONE);
         due("of two", x.orders(3, NONE), 2);
