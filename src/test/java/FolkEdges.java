@@ -149,6 +149,16 @@ public final class FolkEdges {
         dead.die(1);
         e.due("the one alive", dead.person(3, 0), 1);
         e.due("the dead one", dead.person(2, 0), 9);
+        // a jar with the voice 0 alone, and one with the voice 6 alone
+        VoiceWills zero = e.parishOf("p1;p2;p9;p9;w0 1 9;");
+        zero.die(0);
+        zero.putBy(1, 1);
+        e.due("to the least mute one", zero.die(1), 2);
+        e.due("the voice 0 to the next one", zero.person(3, 0), 0);
+        VoiceWills six = e.parishOf("p1;p9;p9;p3;p3;p3;p2;w0 6 9;");
+        six.die(0);
+        e.due("to the least mute one", six.die(6), 1);
+        e.due("the voice 6 to the next one", six.person(2, 0), 6);
         // more mute ones than voices
         VoiceWills more = e.parishOf("p1;p2;p9;p9;p9;w0 1 9;");
         more.die(0);

@@ -84,6 +84,8 @@ public final class KnownEdges {
         e.due("of like ones the least: known or not known", e.parishOf("p1;p1;p1;d6;d1;d2;").knock(), 0);
         e.due("the sixth door", e.parishOf("p1;p1;p1;p1;d1;d0;d15;d7;d8;d3;").knock(), 5);
         e.due("the greatest part is least", e.parishOf("p1;p1;p1;p1;p1;p1;p1;d63;d31;d15;d7;").knock(), 2);
+        e.says("KNOCK; NONE.");
+        e.due("a new object", new VoiceWills().knock(), NONE);
         VoiceWills x = e.parishOf("p1;p1;p1;p1;d12;d10;");
         e.due("two and two", x.knock(), 0);
         x.see(0, true);

@@ -224,7 +224,10 @@ public final class ModelRuns {
         }
     }
 
-    /** All that can be looked at, so that a wrong state shows at the call that made it. */
+    /**
+     * All that can be looked at, so that a wrong state shows at the call that made it. These looks are not counted
+     * among the 512 calls for which an object answers: the class counts no calls, and they change nothing.
+     */
     private boolean looksAlike() {
         for (int what = -1; what <= 12; what++) {
             if (own.told(what) != model.told(what)) {

@@ -274,6 +274,9 @@ public final class RefusalEdges {
 
         e.says("All numbers are whole; / cuts towards 0.");
         e.due("half of odd numbers", x.live(1, 10, 50), 976562);
+        e.says("BILLION is 1000000000.");
+        e.due("of a billion", x.live(0, 0, 0), 1000000000);
+        e.due("of a billion", x.live(1, 1, 1), 990000000);
     }
 
     public static void main(String[] args) {

@@ -65,6 +65,7 @@ public final class TextEdges {
         e.due("the last as A", seven.person(0, 2), 6);
         // each once: a will that was told as 9 9 is told all the same
         e.faulty("p1;w0 9 9;w0 9 9;", 4, 11);
+        e.faulty("p1;p1;w0 1 9;w1 0 9;w0 1 9;", 4, 21);
         // ahead: P, A, B must all have been told when the will is
         e.faulty("w0 9 9;p1;", 2, 1);
         e.faulty("p1;w0 1 9;p1;", 2, 6);
@@ -387,6 +388,37 @@ public final class TextEdges {
         e.due("letters behind a fault", x.told(3), 0);
         e.due("nothing of the faulty text is left", Edges.tell(x, "p1;p2;"), 2);
         e.due("nothing of the sound text is left", Edges.tell(x, "p1;"), 1);
+
+        String[] longer = {"p1 ;p9; ", "p1 1;", "p11;", "p1;;", blanks(240)};
+        for (String each : longer) {
+            VoiceWills shorter = new VoiceWills();
+            Edges.tell(shorter, each);
+            e.due("a shorter text behind \"" + each + "\" ends where it ends", Edges.tell(shorter, "p1"), -11);
+            e.due("its end behind \"" + each + "\"", shorter.fault(), 2);
+            Edges.tell(shorter, each);
+            e.due("a shorter number behind \"" + each + "\"", Edges.tell(shorter, "p"), -11);
+            e.due("its end behind \"" + each + "\"", shorter.fault(), 1);
+        }
+        VoiceWills again = new VoiceWills();
+        for (int i = 0; i < 4; i++) {
+            e.due("a fault behind all else", Edges.tell(again, "p1;p2;w0 1 9;d5;c1,2;x"), -11);
+            e.due("its letter", again.fault(), 21);
+        }
+        e.due("nothing of these: wills and a choir may be told", Edges.tell(again, "p3;p3;p3;w0 2 1;c1;"), 3);
+        e.due("nothing of these: no doors", again.told(1), 0);
+        e.due("nothing of these: one part", again.told(2), 1);
+        e.due("nothing of these: A", again.person(0, 2), 2);
+        for (int i = 0; i < 4; i++) {
+            e.due("sound ones in a row", Edges.tell(again, "p3;p3;w" + i % 2 + " 9 9;d7;c1;"), 2);
+            e.due("doors", again.told(1), 1);
+            e.due("parts", again.told(2), 1);
+        }
+        for (int i = 0; i < 3; i++) {
+            e.due("without doors and parts", Edges.tell(again, "p4;p4;"), 2);
+            e.due("no doors", again.told(1), 0);
+            e.due("no parts", again.told(2), 0);
+            e.due("no will", again.person(1, 2), 9);
+        }
 
         e.says("(all alive, no JARS; nothing SEEN, known, no BOOK; IMAGES, what could be undone are gone; THE SEED stays)");
         VoiceWills y = lively();

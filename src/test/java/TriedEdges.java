@@ -76,6 +76,16 @@ public final class TriedEdges {
     // ---- promises 15 and 16
 
     private static void promise15() {
+        e.says("which VOICE a PERSON uses then; who uses a VOICE then (NONE)");
+        VoiceWills all = e.parishOf("p1;p9;p3;w0 1 9;");
+        for (int p = 0; p < 3; p++) {
+            int voice = all.after(1, p);
+            e.due("voice of " + p, voice, p == 0 ? 9 : p == 1 ? 0 : 2);
+            if (voice != 9) {
+                e.due("who uses " + voice, all.whose(1, voice), p);
+            }
+        }
+        e.due("behind all deaths nobody", all.whose(123, 0), NONE);
         e.says("AFTER: the VOICE that a PERSON uses (9: none, dead). UNKNOWN, OUTSIDE: no such ORDER.");
         VoiceWills x = e.parishOf(Edges.FIVE);
         for (int p : NO_FIFTH) {
@@ -141,6 +151,17 @@ public final class TriedEdges {
         VoiceWills mute = e.parishOf("p1;p2;p9;w0 1 2;");
         e.due("to nobody", mute.wills(1, 2, 0, 0), 1);
         e.due("to nobody: the set", mute.wills(1, 2, 0, 1), 1);
+        VoiceWills keeps = e.parishOf("p1;p2;w0 1 9;");
+        e.due("to nobody, so that the other one keeps his own", keeps.wills(1, 1, 1, 0), 1);
+        e.due("to nobody, so that the other one keeps his own: the set", keeps.wills(1, 1, 1, 1), 1);
+        // anybody else: the person 0, too
+        e.due("to 0", e.parishOf("p1;p2;").wills(2, 0, 1, 1), 2);
+        VoiceWills up = e.parishOf("p1;p2;p3;p4;w1 2 9;w2 3 9;");
+        e.due("the greater one to 0, the lesser one elsewhere", up.wills(23, 0, 2, 0), 2);
+        e.due("the greater one to 0: the set", up.wills(23, 0, 2, 1), 6);
+        VoiceWills down = e.parishOf("p1;p2;p3;p4;w2 1 9;w1 3 9;");
+        e.due("the lesser one to 0, the greater one elsewhere", down.wills(32, 0, 1, 0), 2);
+        e.due("the lesser one to 0: the set", down.wills(32, 0, 1, 1), 6);
         // of like ones the least set, which is not the one with the least person
         VoiceWills least = e.parishOf("p9;p1;p1;p1;p9;w0 4 9;w1 3 9;w2 1 9;w4 2 9;");
         e.due("two", least.wills(2341, 4, 3, 0), 2);
@@ -219,6 +240,11 @@ public final class TriedEdges {
         for (int k = 0; k < who.length; k++) {
             e.due("part " + k, between.sing(k), who[k]);
         }
+        VoiceWills late = e.parishOf("p1;p5;c8,1,4;");
+        e.due("nobody for the first part, two for the others", late.sing(NONE), 2);
+        e.due("nobody for the first part", late.sing(0), NONE);
+        e.due("the second part", late.sing(1), 0);
+        e.due("the third part", late.sing(2), 1);
         VoiceWills six = e.parishOf("p1;p1;p1;p1;p1;p1;p1;c1,1,1,1,1,1;");
         e.due("six", six.sing(NONE), 6);
         for (int k = 0; k < 6; k++) {
